@@ -1,6 +1,7 @@
 import java.util.Arrays;
 import java.util.NoSuchElementException;
 
+// Every row is read and written by at() and put(), or behind a test of the index, so that the machine never throws.
 public final class PraiseLift {
     public static final int NONE = -1;
 
@@ -1277,17 +1278,17 @@ public final class PraiseLift {
         }
 
         int prideOfAll() {
-            int sum = 0;
-            for (int m = 0; m < plan.men; m++) {
-                sum += at(days.pride, m);
-            }
-            return sum;
+            return sumOfMen(days.pride);
         }
 
         int ridesOfAll() {
+            return sumOfMen(days.rode);
+        }
+
+        private int sumOfMen(int[] row) {
             int sum = 0;
             for (int m = 0; m < plan.men; m++) {
-                sum += at(days.rode, m);
+                sum += at(row, m);
             }
             return sum;
         }

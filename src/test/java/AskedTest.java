@@ -85,6 +85,11 @@ public final class AskedTest {
         Check.law(x, "3");
         due("three of 3 are down 1", x.to(7), 1);
         due("alike needs 10", x.to(8), 23);
+        Check.work(x, "again 9[say 1 0;];insult 1;");
+        due("card 0 can't be said", x.to(7), 2);
+        due("alike without it", x.to(8), -1);
+        Check.law(x, "5");
+        due("two of the others", x.to(8), 6);
         CHECK.throwsArgument("to(-1)", () -> x.to(-1));
         CHECK.throwsArgument("to(9)", () -> x.to(9));
     }
@@ -290,6 +295,14 @@ public final class AskedTest {
                 due("breath(" + m + ", 15, " + row[0] + ")", x.breath(m, 15, row[0]), row[1 + m]);
             }
         }
+        PraiseLift y = Check.housed("man 0 1 0;card 1 0;card 1 0;card 1 0;");
+        Check.law(y, "40");
+        Check.work(y, "again 9[say 0 0;say 0 1;say 0 2;];");
+        int[] bounds = {0, 1, 511, 512, 513, 767, 768, 895, 896, 899, 900};
+        for (int n : bounds) {
+            due("breath of 900 by " + n, y.breath(0, 1, n), n);
+        }
+        due("breath of 900 by 901", y.breath(0, 1, 901), 900);
         due("he has no pride", x.breath(3, 15, 9999), 0);
         due("of two", x.breath(2, 6, 20), 10);
         due("of himself", x.breath(2, 4, 13), 13);

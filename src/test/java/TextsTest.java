@@ -250,6 +250,12 @@ public final class TextsTest {
         lawFault("praisevanity", 1, 0);
         lawFault("1praise", 1, 1);
         lawFault("mans", 1, 0);
+        lawFault("manz", 1, 0);
+        lawFault("mana", 1, 0);
+        lawFault("man{", 1, 3);
+        lawFault("man`", 1, 3);
+        lawFault("5/", 1, 2);
+        lawFault("5:", 1, 1);
         lawFault("3;", 1, 1);
         lawFault("(1", 1, 2);
         lawFault("(1]", 1, 2);
