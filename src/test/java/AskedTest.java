@@ -90,6 +90,12 @@ public final class AskedTest {
         due("alike without it", x.to(8), -1);
         Check.law(x, "5");
         due("two of the others", x.to(8), 6);
+        PraiseLift y = Check.housed("floors 3;man 0 20 0;card 1 0;card 1 0;piano 20;");
+        Check.work(y, "say 0 1;enter 0;insult 0;");
+        Check.law(y, "0");
+        Check.work(y, "again 9[say 0 0;];");
+        due("alike, at the top", y.to(2), 0);
+        due("what can't be said takes nothing away", y.to(1), -1);
         CHECK.throwsArgument("to(-1)", () -> x.to(-1));
         CHECK.throwsArgument("to(9)", () -> x.to(9));
     }
