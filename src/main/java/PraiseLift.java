@@ -83,7 +83,9 @@ public final class PraiseLift {
 
     public int law(int n) throws IllegalArgumentException {
         openText(n, LAW_SPACE);
-        spareLaw.readWhole(reader);
+        spareLaw.wipe();
+        spareLaw.readSum(reader, 0);
+        reader.needEnd();
         if (!reader.failed()) {
             Law old = now.rule;
             now.rule = spareLaw;
@@ -98,10 +100,11 @@ public final class PraiseLift {
             faultPlace = NONE;
             return WORKS_FULL;
         }
-        steps.readWhole(reader, now.plan);
+        steps.wipe();
+        steps.readSteps(reader, now.plan, 0);
         if (!reader.failed()) {
             past.keepWork(now.days);
-            steps.doAll(now);
+            steps.doSteps(now, 0, steps.size, 0);
             stepsRefused = steps.refused;
         }
         return closeText(steps.done);
@@ -645,16 +648,16 @@ public final class PraiseLift {
             return byteAt(place);
         }
 
-        boolean takeSign(int sign) {
-            if (peek() != sign) {
-                return false;
+        void needSign(int sign) {
+            if (peek() == sign) {
+                place++;
+            } else {
+                blame(CANNOT_STAND, place);
             }
-            place++;
-            return true;
         }
 
-        void needSign(int sign) {
-            if (!takeSign(sign)) {
+        void needEnd() {
+            if (peek() != END) {
                 blame(CANNOT_STAND, place);
             }
         }
@@ -825,7 +828,7 @@ public final class PraiseLift {
         }
 
         void setUsual() {
-            size = 0;
+            wipe();
             putCode(FACT_CODE + PRAISE);
             putCode(FACT_CODE + VANITY);
             putCode(SIGN_CODE + '+');
@@ -835,22 +838,18 @@ public final class PraiseLift {
             putCode(SIGN_CODE + '-');
         }
 
-        void readWhole(Reader reader) {
+        void wipe() {
             size = 0;
-            readSum(reader, 0);
-            if (reader.peek() != Reader.END) {
-                reader.blame(CANNOT_STAND, reader.place);
-            }
         }
 
-        private void readSum(Reader reader, int open) {
+        void readSum(Reader reader, int open) {
             readProduct(reader, open);
             for (int i = 0; i < LAW_SPACE && !reader.failed(); i++) {
                 int sign = reader.peek();
                 if (sign != '+' && sign != '-') {
                     return;
                 }
-                reader.takeSign(sign);
+                reader.needSign(sign);
                 readProduct(reader, open);
                 putCode(SIGN_CODE + sign);
             }
@@ -863,7 +862,7 @@ public final class PraiseLift {
                 if (sign != '*' && sign != '/' && sign != '%') {
                     return;
                 }
-                reader.takeSign(sign);
+                reader.needSign(sign);
                 readUnit(reader, open);
                 putCode(SIGN_CODE + sign);
             }
@@ -890,7 +889,7 @@ public final class PraiseLift {
                 reader.blame(TOO_MANY, reader.place);
                 return;
             }
-            reader.takeSign('(');
+            reader.needSign('(');
             readSum(reader, open + 1);
             reader.needSign(')');
         }
@@ -991,12 +990,14 @@ public final class PraiseLift {
         int done = 0;
         int refused = 0;
 
-        void readWhole(Reader reader, House plan) {
+        void wipe() {
             size = 0;
-            readSteps(reader, plan, 0);
+            begun = 0;
+            done = 0;
+            refused = 0;
         }
 
-        private void readSteps(Reader reader, House plan, int open) {
+        void readSteps(Reader reader, House plan, int open) {
             int end = open == 0 ? Reader.END : ']';
             for (int i = 0; i < WORK_SPACE; i++) {
                 if (reader.failed() || reader.peek() == end) {
@@ -1046,14 +1047,7 @@ public final class PraiseLift {
             put(second, step, size);
         }
 
-        void doAll(Lift lift) {
-            begun = 0;
-            done = 0;
-            refused = 0;
-            doSteps(lift, 0, size, 0);
-        }
-
-        private void doSteps(Lift lift, int from, int end, int open) {
+        void doSteps(Lift lift, int from, int end, int open) {
             for (int i = from; i < end && begun < MOST_STEPS; i = behind(i)) {
                 begun++;
                 if (at(kind, i) == AGAIN) {

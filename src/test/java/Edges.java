@@ -7,6 +7,7 @@ import java.util.TreeSet;
 
 /** Sentences of the document that name a boundary case, each with what is due by it. */
 final class Edges {
+    // all that stands ahead of promise 1: what it is, the public face, the terms
     static final int TERMS = 0;
     static final int PROMISES = 43;
     static final String HOUSE = "floors 5;man 0 30 4;man 0 50 7;man 2 20 0;card 10 5;card 4 9;card 20 1;piano 60;";
@@ -47,7 +48,7 @@ final class Edges {
 
     Edges() throws IOException {
         String text = oneLine(Files.readString(DOCUMENT));
-        sections.add(between(text, "## Terms ", "## Promise 1:"));
+        sections.add(between(text, "## What it is ", "## Promise 1:"));
         for (int promise = 1; promise <= PROMISES; promise++) {
             sections.add(between(text, "## Promise " + promise + ":", "## "));
         }

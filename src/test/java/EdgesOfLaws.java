@@ -125,6 +125,11 @@ final class EdgesOfLaws {
         Check.work(x, "enter 1;go;go;go;");
         e.due("3 rides by now", x.swells(1, 0), 3);
         e.due("not his", x.swells(0, 0), 0);
+        for (int work = 0; work < 14; work++) {
+            Check.work(x, "again 30[go;go;go;go;go;go;go;];");
+        }
+        Check.law(x, "rides-999-999-769");
+        e.due("3 and 14 times 199, more than would() takes", x.swells(1, 0), 22);
         e.says(Edges.TERMS, "\"floor\" (where he is)");
         Check.law(x, "floor");
         e.due("in the lift, where it is", x.swells(1, 0), 5);

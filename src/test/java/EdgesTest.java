@@ -2,7 +2,7 @@ import java.io.IOException;
 
 /** Each sentence of the document that names a boundary case, promise by promise, with what is due by it. */
 public final class EdgesTest {
-    public static void main(String[] args) throws IOException {
+    public static void main(String[] args) throws IOException, IllegalAccessException {
         Edges e = new Edges();
         new EdgesOfHouses(e).run();
         new EdgesOfLaws(e).run();
@@ -13,6 +13,7 @@ public final class EdgesTest {
         new EdgesOfAsked(e).run();
         new EdgesOfWeeks(e).run();
         new EdgesOfKept(e).run();
+        new EdgesOfFace(e).run();
         e.end("EdgesTest");
     }
 }

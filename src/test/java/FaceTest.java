@@ -1,26 +1,26 @@
+import java.io.IOException;
 import java.lang.reflect.Constructor;
 import java.lang.reflect.Field;
 import java.lang.reflect.Method;
 import java.lang.reflect.Modifier;
+import java.nio.file.Files;
+import java.nio.file.Path;
 import java.util.ArrayList;
 import java.util.List;
 import java.util.Set;
 import java.util.TreeSet;
+import java.util.regex.Matcher;
+import java.util.regex.Pattern;
 
 /** The public face as the document tells it, and rule 1 of LANGUAGE.md. */
 public final class FaceTest {
-    private static final String[] FACE = {
-        "int feed(int,int,int,int,int)", "int house(int)", "int law(int)", "int work(int)", "int book(int)", "int fault()", "int undo()",
-        "int told(int)", "int man(int,int)", "int card(int,int)", "int heard(int,int)", "int swells(int,int)",
-        "int would(int,int,int,int,int,int,int,int,int)", "int ahead(int,int)", "int to(int)", "int rides()", "int couple(int)",
-        "int meet(int)", "int cheapest(int)", "int fits(int)", "int look(int)", "long streak(int,int,int,int)", "int flatter(int,int,int)",
-        "int breath(int,int,int)", "int heaviest(int)", "int waiting()", "int floor(int)", "int sweetest(int,int)", "int lacks()",
-        "int truest(int,int)", "int proud(int)", "int liked(int)", "int above(int)", "int ride(int)", "int vacant()", "int times(int,int,int)",
-        "int week(int,int,int,int)", "int span(int,int,int,int,int,int)", "int image()", "int restore()", "int status(int)", "int count(int)"};
+    private static final Path DOCUMENT = Path.of("../shared/DOC.md");
+    private static final Pattern METHOD = Pattern.compile("    public (int|long) (\\w+)\\((.*)\\)(?: throws (.*))?;");
 
-    public static void main(String[] args) {
+    public static void main(String[] args) throws IOException {
         Check check = new Check();
-        Set<String> due = new TreeSet<>(List.of(FACE));
+        Set<String> due = toldFace();
+        check.due("methods in the document", due.size(), 42);
         Set<String> found = new TreeSet<>();
         Set<String> publicNames = new TreeSet<>();
         for (Method m : PraiseLift.class.getDeclaredMethods()) {
@@ -42,12 +42,30 @@ public final class FaceTest {
         check.end("FaceTest");
     }
 
+    /** Each method of the document's face, with the types of what it takes and throws. */
+    private static Set<String> toldFace() throws IOException {
+        Set<String> all = new TreeSet<>();
+        for (String line : Files.readAllLines(DOCUMENT)) {
+            Matcher m = METHOD.matcher(line);
+            if (m.matches()) {
+                String types = m.group(3).replaceAll("(\\w+) \\w+", "$1").replace(" ", "");
+                String thrown = m.group(4) == null ? "" : m.group(4).replace(" ", "");
+                all.add(m.group(1) + " " + m.group(2) + "(" + types + ")" + thrown);
+            }
+        }
+        return all;
+    }
+
     private static String sign(Method m) {
         List<String> types = new ArrayList<>();
         for (Class<?> type : m.getParameterTypes()) {
             types.add(type.getName());
         }
-        return m.getReturnType().getName() + " " + m.getName() + "(" + String.join(",", types) + ")";
+        List<String> thrown = new ArrayList<>();
+        for (Class<?> type : m.getExceptionTypes()) {
+            thrown.add(type.getSimpleName());
+        }
+        return m.getReturnType().getName() + " " + m.getName() + "(" + String.join(",", types) + ")" + String.join(",", thrown);
     }
 
     private static void namesInside(Check check, Set<String> publicNames) {
