@@ -34,14 +34,13 @@ public final class PraiseLift {
     private static final int FAULT_BASE = 10;
     private static final int WORKS_FULL = -20;
 
-    private final byte[] tape = new byte[TAPE_SPACE];
-    private final Reader reader = new Reader(tape);
+    private final Reader reader = new Reader();
     private final Lift now = new Lift();
     private final Lift trial = new Lift();
     private final Work steps = new Work();
     private final Past past = new Past();
     private final Scales scales = new Scales();
-    private final Week tried = new Week(trial);
+    private final Week tried = new Week();
     private Law spareLaw = new Law();
     private Book lines = new Book();
     private Book spareLines = new Book();
@@ -452,7 +451,7 @@ public final class PraiseLift {
         needArgument(isWithin(days, 1, 48));
         needArgument(isWithin(what, 0, 3));
         trial.becomeLike(now);
-        tried.live(seed, q, days);
+        tried.live(trial, seed, q, days);
         switch (what) {
             case 0: return trial.days.bell - now.days.bell;
             case 1: return trial.days.level;
@@ -472,7 +471,7 @@ public final class PraiseLift {
         int up = 0;
         for (int i = 0; i < many; i++) {
             trial.becomeLike(now);
-            tried.live(seed + i, q, days);
+            tried.live(trial, seed + i, q, days);
             int rode = trial.ridesOfAll() - now.ridesOfAll();
             fewest = i == 0 ? rode : Math.min(fewest, rode);
             most = Math.max(most, rode);
@@ -520,6 +519,7 @@ public final class PraiseLift {
     // ---- help for the face ----
 
     private void putFourBytes(int number) {
+        byte[] tape = reader.text;
         for (int shift = 24; shift >= 0; shift -= 8) {
             if (tapeBytes >= 0 && tapeBytes < tape.length) {
                 tape[tapeBytes] = (byte) (number >> shift);
@@ -601,21 +601,17 @@ public final class PraiseLift {
         System.arraycopy(from, 0, into, 0, Math.min(from.length, into.length));
     }
 
-    // Reads a text from the left; the first fault stays, whatever is read behind it.
+    // Reads a text of the TAPE from the left; the first fault stays, whatever is read behind it.
     private static final class Reader {
         static final int END = -1;
         static final int TOO_BIG = 100000;
 
-        final byte[] text;
+        final byte[] text = new byte[TAPE_SPACE];
         int length = 0;
         int place = 0;
         int faultKind = 0;
         int faultPlace = NONE;
         int wordFrom = 0;
-
-        Reader(byte[] text) {
-            this.text = text;
-        }
 
         void open(int n) {
             length = Math.min(n, text.length);
@@ -1695,24 +1691,19 @@ public final class PraiseLift {
     private static final class Week {
         static final int TIMES_A_DAY = 4;
 
-        final Lift lift;
         int seed = 0;
 
-        Week(Lift lift) {
-            this.lift = lift;
-        }
-
-        void live(int firstSeed, int q, int days) {
+        void live(Lift lift, int firstSeed, int q, int days) {
             seed = firstSeed;
             for (int d = 0; d < days; d++) {
                 for (int i = 0; i < TIMES_A_DAY; i++) {
-                    doOnce(q);
+                    doOnce(lift, q);
                 }
                 lift.sleep();
             }
         }
 
-        private void doOnce(int q) {
+        private void doOnce(Lift lift, int q) {
             if (lift.plan.men == 0 || lift.plan.cards == 0) {
                 return;
             }
